@@ -302,12 +302,13 @@ public final class PlainModelTest {
         private final int alphabet;
         private final int mostWords;
         private final int mostTokens;
+        private int calls = 0;
 
         Run(Check check, int number) {
             this.check = check;
             this.number = number;
             random = new Random(number);
-            alphabet = 2 + random.nextInt(number % 10 == 0 ? 25 : 4);
+            alphabet = 2 + random.nextInt(number % 8 == 0 ? 25 : 4);
             mostWords = number % 8 == 0 ? 61 : 3 + random.nextInt(10);
             mostTokens = mostWords > 20 ? 3 : 7;
         }
@@ -338,6 +339,11 @@ public final class PlainModelTest {
         }
 
         void step() {
+            calls++;
+            if (mostWords > 60 && calls < 200) {
+                fillUp();
+                return;
+            }
             int kind = random.nextInt(100);
             if (kind < 42) {
                 type(kind);
@@ -350,6 +356,11 @@ public final class PlainModelTest {
             }
         }
 
+        /** Many words soon, so that the later calls meet a full house. */
+        private void fillUp() {
+            type(m.typed.length() == 12 ? 26 : calls % 2 == 0 ? 31 : 0);
+        }
+
         private void type(int kind) {
             if (kind < 26) {
                 int c = someLetter();
@@ -357,7 +368,7 @@ public final class PlainModelTest {
             } else if (kind < 31) {
                 due("clear()", x.clear(), m.clear());
             } else {
-                int n = random.nextInt(3) == 0 ? some(1001) : 1 + random.nextInt(3);
+                int n = random.nextInt(9) == 0 ? some(1001) : 1 + random.nextInt(3);
                 if (m.words.size() < mostWords) due("word(" + n + ")", x.word(n), m.word(n));
             }
         }

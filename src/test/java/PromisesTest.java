@@ -26,6 +26,7 @@ public final class PromisesTest {
         promise20();
         promise21();
         promise22();
+        fullHouse();
         CHECK.end();
     }
 
@@ -339,6 +340,16 @@ public final class PromisesTest {
         x.price(2, 2);
         edits(x, 2, "ba", 2, 0, 2, 1);
 
+        SuggestSpell z = new SuggestSpell();
+        Check.tell(z, "ab", 1);
+        z.price(0, 1);
+        z.price(1, 3);
+        edits(z, 0, "abc", 1, 2);
+        edits(z, 0, "b", 0, 0);
+        edits(z, 0, "bcb", 1, 0, 2, 1);
+        z.price(2, 9);
+        edits(z, 0, "xy", 0, 0, 0, 0, 1, 0, 1, 1);
+
         SuggestSpell y = new SuggestSpell();
         Check.tell(y, "bb", 1);
         y.price(0, 0);
@@ -531,8 +542,9 @@ public final class PromisesTest {
         chosen(x, 50, -3, -1);
         Check.tokens(x, "b");
         chosen(x, 50, -3, -3, -1);
-        x.line();
         Check.tell(x, "b", 1);
+        chosen(x, 50, 0, 0, -1);
+        x.line();
         Check.tell(x, "a", 1);
         chosen(x, 50, -3, -1);
         Check.tokens(x, "b", "c", "a");
@@ -585,5 +597,45 @@ public final class PromisesTest {
         for (int far : FAR) {
             due("22 word " + far, Check.share(x, far), -1);
         }
+    }
+
+    /** 60 words of 12 letters, 12 letters typed, 6 tokens of 12: every row of the object is full. */
+    private static void fullHouse() {
+        SuggestSpell x = new SuggestSpell();
+        String[] texts = new String[60];
+        for (int i = 0; i < 60; i++) {
+            char[] letters = "mmmmmmmmmmmm".toCharArray();
+            letters[0] = (char) ('a' + (59 - i) / 10);
+            letters[11] = (char) ('a' + (59 - i) % 10);
+            texts[i] = new String(letters);
+            due("full word " + i, Check.tell(x, texts[i], 1), i);
+        }
+        for (int i = 0; i < 60; i++) {
+            due("full order of " + i, x.at(i, -1), 59 - i);
+            Check.type(x, texts[i]);
+            due("full distance of " + i, x.distance(i), 0);
+        }
+        Check.type(x, "zmmmmmmmmmmz");
+        due("full suggest", x.suggest(6), 60);
+        due("full endings", x.endings(6), 60);
+        due("full suggestion", x.suggestion(6, 59), 0);
+        due("full ending", x.ending(5, 0), 59);
+        due("full edits", x.edit(3, -1), 2);
+        due("full parting", x.parting(0), 35);
+        x.price(2, 9);
+        Check.type(x, "zzzzzzzzzzzz");
+        due("full of edits", x.edit(0, -1), 24);
+        due("full first", x.edit(0, 0), 0);
+        due("full last", x.edit(0, 23), 1);
+        due("full last place", x.place(0, 23), 11);
+        Check.tokens(x, texts[9], texts[8], texts[7], texts[6], texts[59], texts[0]);
+        due("full chosen", x.chosen(50, -1), 20);
+        x.price(5, 0);
+        due("full chosen for nothing", x.chosen(50, -1), 0);
+        due("full chosen 5", x.chosen(50, 5), 0);
+        due("full chosen 4", x.chosen(50, 4), 59);
+        due("full chosen 0", x.chosen(0, 0), 9);
+        due("full pair", x.pair(59, 59, true), 1);
+        due("full pair is one alone", x.pair(58, 59, true), 1);
     }
 }

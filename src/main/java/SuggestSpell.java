@@ -140,7 +140,8 @@ public final class SuggestSpell {
         if (!words.has(word)) {
             return NO_SUCH;
         }
-        return priceOfBeginning(word);
+        table.measure(typed, words.rows[word]);
+        return table.leastOfBeginnings();
     }
 
     public int edit(int word, int k) {
@@ -273,11 +274,6 @@ public final class SuggestSpell {
         return table.measure(typed, words.rows[word]);
     }
 
-    private int priceOfBeginning(int word) {
-        table.measure(typed, words.rows[word]);
-        return table.leastOfBeginnings();
-    }
-
     private void findEdits(int word) {
         table.measure(typed, words.rows[word]);
         table.trace();
@@ -306,7 +302,8 @@ public final class SuggestSpell {
         ranking.size = 0;
         for (int rank = 0; rank < words.size; rank++) {
             int word = words.inOrder[rank];
-            int cost = beginnings ? priceOfBeginning(word) : priceOfWord(word);
+            int whole = table.measure(typed, words.rows[word]);
+            int cost = beginnings ? table.leastOfBeginnings() : whole;
             if (cost <= limit) {
                 ranking.add(word, cost, words.counts[word]);
             }

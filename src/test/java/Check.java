@@ -1,5 +1,7 @@
-/** What the tests share: answers that are due, and letters told as text ('a' is LETTER 0). */
+/** Counts the answers that a test asked for, and prints those that are not as due. */
 final class Check {
+    private static final int MOST_PRINTED = 40;
+
     private int wrong = 0;
     private int asked = 0;
 
@@ -7,7 +9,7 @@ final class Check {
         asked++;
         if (got != want) {
             wrong++;
-            if (wrong <= 40) {
+            if (wrong <= MOST_PRINTED) {
                 System.out.println(call + " answered " + got + ", due is " + want);
             }
         }
@@ -21,35 +23,6 @@ final class Check {
         System.out.println(asked + " answers, " + wrong + " not as due");
         if (wrong != 0 || asked == 0) {
             System.exit(1);
-        }
-    }
-
-    static void type(SuggestSpell x, String text) {
-        x.clear();
-        for (int i = 0; i < text.length(); i++) {
-            x.letter(text.charAt(i) - 'a');
-        }
-    }
-
-    static int tell(SuggestSpell x, String text, int count) {
-        type(x, text);
-        return x.word(count);
-    }
-
-    static void tokens(SuggestSpell x, String... texts) {
-        x.line();
-        for (String text : texts) {
-            type(x, text);
-            x.token();
-        }
-    }
-
-    /** The answer of share, or Long.MIN_VALUE where it throws what the document names. */
-    static long share(SuggestSpell x, int word) {
-        try {
-            return x.share(word);
-        } catch (ArithmeticException e) {
-            return Long.MIN_VALUE;
         }
     }
 }

@@ -287,7 +287,7 @@ public final class PlainModelTest {
 
         long share(int word) {
             if (no(word)) return -1;
-            if (typed.isEmpty()) return Long.MIN_VALUE;
+            if (typed.isEmpty()) return Speller.THROWN;
             return 1000L * least(typed, words.get(word)) / typed.length();
         }
     }
@@ -297,7 +297,7 @@ public final class PlainModelTest {
         private final Check check;
         private final int number;
         private final Random random;
-        private final SuggestSpell x = new SuggestSpell();
+        private final Speller x = new Speller();
         private final Model m = new Model();
         private final int alphabet;
         private final int mostWords;
@@ -436,7 +436,7 @@ public final class PlainModelTest {
                 due("chosen(" + limit + ", " + k + ")", x.chosen(limit, k), m.chosen(limit, k));
             } else {
                 int word = someWord();
-                due("share(" + word + ")", Check.share(x, word), m.share(word));
+                due("share(" + word + ")", x.share(word), m.share(word));
             }
         }
     }

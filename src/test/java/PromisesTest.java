@@ -31,7 +31,7 @@ public final class PromisesTest {
     }
 
     private static void promise1() {
-        SuggestSpell x = new SuggestSpell();
+        Speller x = new Speller();
         due("1 clear", x.clear(), 0);
         due("1 line", x.line(), 0);
         due("1 at", x.at(0, -2), -1);
@@ -43,19 +43,20 @@ public final class PromisesTest {
             due("1 price " + kind, x.price(kind, 0), first[kind]);
         }
         for (int a = 0; a < 26; a++) {
+            Speller y = new Speller();
             for (int b = 0; b < 26; b++) {
-                due("1 near " + a + " " + b, x.near(a, b, -1), a == b ? -1 : -3);
+                due("1 near " + a + " " + b, y.near(a, b, -1), a == b ? -1 : -3);
             }
         }
-        SuggestSpell other = new SuggestSpell();
-        Check.tell(x, "ab", 1);
+        Speller other = new Speller();
+        x.tell("ab", 1);
         due("1 objects share nothing", other.at(0, -2), -1);
         due("1 nor what is typed", other.clear(), 0);
         due("1 nor prices", other.price(0, 1), 2);
     }
 
     private static void promise2() {
-        SuggestSpell x = new SuggestSpell();
+        Speller x = new Speller();
         due("2 letter(-1)", x.letter(-1), -1);
         due("2 letter(26)", x.letter(26), -1);
         for (int i = 1; i <= 12; i++) {
@@ -70,8 +71,8 @@ public final class PromisesTest {
     }
 
     private static void promise3() {
-        SuggestSpell x = new SuggestSpell();
-        Check.type(x, "abc");
+        Speller x = new Speller();
+        x.type("abc");
         due("3 clear", x.clear(), 3);
         due("3 clear again", x.clear(), 0);
         due("3 it is empty", x.letter(4), 1);
@@ -82,9 +83,9 @@ public final class PromisesTest {
     }
 
     private static void promise4() {
-        SuggestSpell x = new SuggestSpell();
+        Speller x = new Speller();
         due("4 nothing is typed", x.word(1), -2);
-        Check.type(x, "ab");
+        x.type("ab");
         due("4 COUNT 0", x.word(0), -2);
         due("4 COUNT 1001", x.word(1001), -2);
         due("4 COUNT -1", x.word(-1), -2);
@@ -100,11 +101,11 @@ public final class PromisesTest {
             due("4 COUNT " + n, x.word(n), -2);
         }
         for (int i = 2; i < 60; i++) {
-            due("4 word " + i, Check.tell(x, "" + (char) ('a' + i / 26) + (char) ('a' + i % 26) + "z", 1), i);
+            due("4 word " + i, x.tell("" + (char) ('a' + i / 26) + (char) ('a' + i % 26) + "z", 1), i);
         }
-        due("4 no room", Check.tell(x, "zz", 1), -4);
+        due("4 no room", x.tell("zz", 1), -4);
         due("4 bounds are ahead of no room", x.word(0), -2);
-        due("4 as told is ahead of no room", Check.tell(x, "ab", 1), -3);
+        due("4 as told is ahead of no room", x.tell("ab", 1), -3);
         x.clear();
         due("4 nothing typed is ahead of no room", x.word(1), -2);
         due("4 there are 60", x.at(59, -2), 3);
@@ -112,9 +113,9 @@ public final class PromisesTest {
     }
 
     private static void promise5() {
-        SuggestSpell x = new SuggestSpell();
+        Speller x = new Speller();
         due("5 no word", x.count(0, 1), -1);
-        Check.tell(x, "ab", 7);
+        x.tell("ab", 7);
         due("5 count", x.count(0, 1000), 7);
         due("5 count 1", x.count(0, 1), 1000);
         due("5 count 0", x.count(0, 0), -2);
@@ -131,12 +132,12 @@ public final class PromisesTest {
     }
 
     private static void promise6() {
-        SuggestSpell x = new SuggestSpell();
-        Check.tell(x, "cab", 1);
-        Check.tell(x, "ca", 1);
-        Check.tell(x, "b", 1);
-        Check.tell(x, "caa", 1);
-        Check.tell(x, "abcdefghijkl", 1);
+        Speller x = new Speller();
+        x.tell("cab", 1);
+        x.tell("ca", 1);
+        x.tell("b", 1);
+        x.tell("caa", 1);
+        x.tell("abcdefghijkl", 1);
         int[] order = {4, 2, 1, 3, 0};
         int[] lengths = {3, 2, 1, 3, 12};
         for (int word = 0; word < 5; word++) {
@@ -163,7 +164,7 @@ public final class PromisesTest {
     }
 
     private static void promise7() {
-        SuggestSpell x = new SuggestSpell();
+        Speller x = new Speller();
         int[] first = {2, 2, 3, 1, 5, 4};
         int[] most = {9, 9, 9, 9, 50, 50};
         for (int kind = 0; kind < 6; kind++) {
@@ -181,23 +182,23 @@ public final class PromisesTest {
         for (int far : FAR) {
             due("7 kind " + far, x.price(far, 1), -2);
         }
-        Check.tell(x, "ab", 1);
-        Check.type(x, "a");
+        x.tell("ab", 1);
+        x.type("a");
         x.price(0, 7);
         due("7 putting in", x.distance(0), 7);
-        Check.type(x, "abc");
+        x.type("abc");
         x.price(1, 6);
         due("7 leaving out", x.distance(0), 6);
-        Check.type(x, "ac");
+        x.type("ac");
         x.price(2, 8);
         due("7 becoming", x.distance(0), 8);
-        Check.type(x, "ba");
+        x.type("ba");
         x.price(3, 9);
         due("7 changing places", x.distance(0), 9);
     }
 
     private static void promise8() {
-        SuggestSpell x = new SuggestSpell();
+        Speller x = new Speller();
         due("8 none yet", x.near(0, 25, 9), -3);
         due("8 it has one", x.near(0, 25, 0), 9);
         due("8 the other way it has none", x.near(25, 0, 4), -3);
@@ -217,13 +218,13 @@ public final class PromisesTest {
             due("8 b " + far, x.near(3, far, 1), -1);
             due("8 v " + far, x.near(3, 4, far), -2);
         }
-        Check.tell(x, "e", 1);
-        Check.type(x, "d");
+        x.tell("e", 1);
+        x.type("d");
         due("8 d becomes e at its own price", x.distance(0), 1);
-        Check.tell(x, "d", 1);
-        Check.type(x, "e");
+        x.tell("d", 1);
+        x.type("e");
         due("8 e becomes d at price 2", x.distance(1), 3);
-        Check.type(x, "d");
+        x.type("d");
         x.near(3, 4, -1);
         due("8 no more", x.distance(0), 3);
         x.near(3, 4, 9);
@@ -231,14 +232,14 @@ public final class PromisesTest {
     }
 
     private static void promise9() {
-        SuggestSpell x = new SuggestSpell();
+        Speller x = new Speller();
         due("9 no word", x.distance(0), -1);
-        Check.tell(x, "abcd", 1);
+        x.tell("abcd", 1);
         due("9 the same", x.distance(0), 0);
         String[] typed = {"", "abc", "abcde", "abxd", "bacd", "abdc", "bcad", "badc", "dcba", "acbxd"};
         int[] prices = {8, 2, 2, 3, 1, 1, 4, 2, 7, 3};
         for (int i = 0; i < typed.length; i++) {
-            Check.type(x, typed[i]);
+            x.type(typed[i]);
             due("9 " + typed[i], x.distance(0), prices[i]);
         }
         due("9 word -1", x.distance(-1), -1);
@@ -246,39 +247,39 @@ public final class PromisesTest {
         for (int far : FAR) {
             due("9 word " + far, x.distance(far), -1);
         }
-        SuggestSpell y = new SuggestSpell();
-        Check.tell(y, "bxa", 1);
-        Check.type(y, "ab");
+        Speller y = new Speller();
+        y.tell("bxa", 1);
+        y.type("ab");
         due("9 nothing comes between two that change places", y.distance(0), 6);
-        Check.tell(y, "ab", 1);
-        Check.type(y, "bxa");
+        y.tell("ab", 1);
+        y.type("bxa");
         due("9 nor goes from between them", y.distance(1), 6);
-        Check.tell(y, "bb", 1);
-        Check.type(y, "ba");
+        y.tell("bb", 1);
+        y.type("ba");
         y.price(3, 0);
         y.near(1, 0, 0);
         due("9 each letter is in one edit at most", y.distance(2), 3);
-        SuggestSpell z = new SuggestSpell();
-        Check.tell(z, "ab", 1);
-        Check.type(z, "bb");
+        Speller z = new Speller();
+        z.tell("ab", 1);
+        z.type("bb");
         z.near(1, 0, 0);
         due("9 for nothing", z.distance(0), 0);
         z.price(0, 9);
         z.price(1, 9);
-        Check.tell(z, "cccccccccccc", 1);
-        Check.type(z, "aaaaaaaaaaaa");
+        z.tell("cccccccccccc", 1);
+        z.type("aaaaaaaaaaaa");
         z.price(2, 9);
         due("9 the longest", z.distance(1), 108);
     }
 
     private static void promise10() {
-        SuggestSpell x = new SuggestSpell();
+        Speller x = new Speller();
         due("10 no word", x.begins(0), -1);
-        Check.tell(x, "abcd", 1);
+        x.tell("abcd", 1);
         String[] typed = {"", "a", "ab", "abc", "abcd", "abcde", "ba", "b", "xb", "acb", "xyz", "abxc"};
         int[] prices = {0, 0, 0, 0, 0, 2, 1, 2, 3, 1, 6, 2};
         for (int i = 0; i < typed.length; i++) {
-            Check.type(x, typed[i]);
+            x.type(typed[i]);
             due("10 " + typed[i], x.begins(0), prices[i]);
         }
         due("10 word -1", x.begins(-1), -1);
@@ -288,8 +289,8 @@ public final class PromisesTest {
         }
     }
 
-    private static void edits(SuggestSpell x, int word, String typed, int... kindsAndPlaces) {
-        Check.type(x, typed);
+    private static void edits(Speller x, int word, String typed, int... kindsAndPlaces) {
+        x.type(typed);
         int n = kindsAndPlaces.length / 2;
         due("11 how many for " + typed, x.edit(word, -1), n);
         for (int k = 0; k < n; k++) {
@@ -309,10 +310,10 @@ public final class PromisesTest {
     }
 
     private static void promise11and12() {
-        SuggestSpell x = new SuggestSpell();
+        Speller x = new Speller();
         due("11 no word", x.edit(0, -1), -1);
         due("12 no word", x.place(0, 0), -1);
-        Check.tell(x, "abcd", 1);
+        x.tell("abcd", 1);
         due("11 no word", x.edit(1, -1), -1);
         due("12 no word", x.place(-1, 0), -1);
         edits(x, 0, "abcd");
@@ -324,24 +325,26 @@ public final class PromisesTest {
         edits(x, 0, "badc", 3, 0, 3, 2);
         edits(x, 0, "bacxd", 3, 0, 1, 3);
         edits(x, 0, "xbc", 2, 0, 0, 3);
-        Check.tell(x, "aa", 1);
+        x.tell("aa", 1);
         edits(x, 1, "a", 0, 0);
         edits(x, 1, "aaa", 1, 0);
-        Check.tell(x, "ab", 1);
-        x.price(2, 4);
-        edits(x, 2, "ac", 2, 1);
-        x.price(2, 5);
-        edits(x, 2, "ac", 0, 1, 1, 1);
-        x.price(2, 4);
-        x.price(3, 8);
-        edits(x, 2, "ba", 0, 0, 1, 1);
-        x.price(3, 4);
-        edits(x, 2, "ba", 3, 0);
-        x.price(2, 2);
-        edits(x, 2, "ba", 2, 0, 2, 1);
 
-        SuggestSpell z = new SuggestSpell();
-        Check.tell(z, "ab", 1);
+        Speller v = new Speller();
+        v.tell("ab", 1);
+        v.price(2, 4);
+        edits(v, 0, "ac", 2, 1);
+        v.price(2, 5);
+        edits(v, 0, "ac", 0, 1, 1, 1);
+        v.price(2, 4);
+        v.price(3, 8);
+        edits(v, 0, "ba", 0, 0, 1, 1);
+        v.price(3, 4);
+        edits(v, 0, "ba", 3, 0);
+        v.price(2, 2);
+        edits(v, 0, "ba", 2, 0, 2, 1);
+
+        Speller z = new Speller();
+        z.tell("ab", 1);
         z.price(0, 1);
         z.price(1, 3);
         edits(z, 0, "abc", 1, 2);
@@ -350,8 +353,8 @@ public final class PromisesTest {
         z.price(2, 9);
         edits(z, 0, "xy", 0, 0, 0, 0, 1, 0, 1, 1);
 
-        SuggestSpell y = new SuggestSpell();
-        Check.tell(y, "bb", 1);
+        Speller y = new Speller();
+        y.tell("bb", 1);
         y.price(0, 0);
         y.price(1, 0);
         edits(y, 0, "ab", 0, 0, 1, 0);
@@ -363,14 +366,14 @@ public final class PromisesTest {
     }
 
     private static void promise13and14() {
-        SuggestSpell x = new SuggestSpell();
+        Speller x = new Speller();
         due("14 no words", x.suggestion(0, 0), -1);
-        Check.tell(x, "abd", 5);
-        Check.tell(x, "abc", 5);
-        Check.tell(x, "abe", 6);
-        Check.tell(x, "ab", 1);
-        Check.tell(x, "ba", 1000);
-        Check.type(x, "ab");
+        x.tell("abd", 5);
+        x.tell("abc", 5);
+        x.tell("abe", 6);
+        x.tell("ab", 1);
+        x.tell("ba", 1000);
+        x.type("ab");
         int[] limits = {0, 1, 2, 3, 50};
         int[] many = {1, 2, 5, 5, 5};
         int[] row = {3, 4, 2, 1, 0};
@@ -394,22 +397,22 @@ public final class PromisesTest {
         for (int far : FAR) {
             due("14 i " + far, x.suggestion(50, far), -1);
         }
-        Check.type(x, "zzzzzzzzzzzz");
+        x.type("zzzzzzzzzzzz");
         x.price(1, 9);
         x.price(2, 9);
         due("13 none is so near", x.suggest(50), 0);
     }
 
     private static void promise15and16() {
-        SuggestSpell x = new SuggestSpell();
+        Speller x = new Speller();
         due("16 no words", x.ending(0, 0), -1);
-        Check.tell(x, "abdxyz", 5);
-        Check.tell(x, "abc", 5);
-        Check.tell(x, "abex", 6);
-        Check.tell(x, "ab", 1);
-        Check.tell(x, "bax", 1000);
-        Check.tell(x, "x", 1);
-        Check.type(x, "ab");
+        x.tell("abdxyz", 5);
+        x.tell("abc", 5);
+        x.tell("abex", 6);
+        x.tell("ab", 1);
+        x.tell("bax", 1000);
+        x.tell("x", 1);
+        x.type("ab");
         int[] limits = {0, 1, 2, 3, 4, 50};
         int[] many = {4, 5, 5, 5, 6, 6};
         int[] row = {2, 1, 0, 3, 4, 5};
@@ -435,8 +438,8 @@ public final class PromisesTest {
         }
     }
 
-    private static void parted(SuggestSpell x, String typed, int... want) {
-        Check.type(x, typed);
+    private static void parted(Speller x, String typed, int... want) {
+        x.type(typed);
         for (int what = 0; what < 4; what++) {
             due("17 " + what + " of " + typed, x.parting(what), want[what]);
         }
@@ -446,14 +449,14 @@ public final class PromisesTest {
     }
 
     private static void promise17() {
-        SuggestSpell x = new SuggestSpell();
+        Speller x = new Speller();
         parted(x, "", -3, -3, -3, -3);
         parted(x, "ab", -3, -3, -3, -3);
-        Check.tell(x, "the", 1);
+        x.tell("the", 1);
         parted(x, "", -3, -3, -3, -3);
         parted(x, "t", -3, -3, -3, -3);
-        Check.tell(x, "cat", 1);
-        Check.tell(x, "sat", 1);
+        x.tell("cat", 1);
+        x.tell("sat", 1);
         parted(x, "thecat", 5, 3, 0, 1);
         parted(x, "htesta", 7, 3, 0, 2);
         due("17 what PRICE 4 was", x.price(4, 50), 5);
@@ -463,52 +466,52 @@ public final class PromisesTest {
         parted(x, "satcat", 0, 3, 2, 1);
         parted(x, "catat", 2, 3, 1, 1);
         parted(x, "xy", 14, 1, 1, 1);
-        SuggestSpell y = new SuggestSpell();
-        Check.tell(y, "b", 1);
-        Check.tell(y, "a", 1000);
+        Speller y = new Speller();
+        y.tell("b", 1);
+        y.tell("a", 1000);
         parted(y, "ab", 5, 1, 1, 0);
         parted(y, "aab", 7, 1, 1, 1);
         parted(y, "aaaaaaaaaaaa", 25, 1, 1, 1);
         parted(y, "cc", 11, 1, 1, 1);
         y.price(4, 0);
-        Check.tell(y, "aa", 1);
-        Check.tell(y, "ab", 1);
+        y.tell("aa", 1);
+        y.tell("ab", 1);
         parted(y, "aab", 0, 1, 1, 3);
         parted(y, "aaab", 0, 2, 2, 3);
     }
 
     private static void promise18and19() {
-        SuggestSpell x = new SuggestSpell();
+        Speller x = new Speller();
         due("18 nothing is typed", x.token(), -2);
         for (int i = 1; i <= 6; i++) {
-            Check.type(x, "abcdefghijkl".substring(0, 2 * i));
+            x.type("abcdefghijkl".substring(0, 2 * i));
             due("18 token " + i, x.token(), i);
             due("18 THE TYPED is empty", x.clear(), 0);
         }
         due("18 bounds are ahead of no room", x.token(), -2);
-        Check.type(x, "ab");
+        x.type("ab");
         due("18 no room", x.token(), -4);
         due("18 refused: THE TYPED stays", x.clear(), 2);
         due("19 line", x.line(), 6);
         due("19 line again", x.line(), 0);
-        Check.type(x, "a");
+        x.type("a");
         due("18 from the first again", x.token(), 1);
-        Check.type(x, "abc");
+        x.type("abc");
         due("19 line", x.line(), 1);
         due("19 THE TYPED stays", x.clear(), 3);
-        Check.tell(x, "a", 1);
-        Check.tell(x, "b", 1);
-        Check.tokens(x, "a", "b");
-        Check.tokens(x, "b");
+        x.tell("a", 1);
+        x.tell("b", 1);
+        x.tokens("a", "b");
+        x.tokens("b");
         due("19 old tokens are gone", x.chosen(0, 0), 1);
         due("19 all of them", x.chosen(0, 1), -1);
     }
 
     private static void promise20() {
-        SuggestSpell x = new SuggestSpell();
+        Speller x = new Speller();
         due("20 no word", x.pair(0, 0, true), -1);
-        Check.tell(x, "a", 1);
-        Check.tell(x, "b", 1);
+        x.tell("a", 1);
+        x.tell("b", 1);
         due("20 new", x.pair(0, 1, true), 1);
         due("20 not new", x.pair(0, 1, true), 0);
         due("20 the other way is another one", x.pair(1, 0, false), 0);
@@ -526,11 +529,11 @@ public final class PromisesTest {
             due("20 a " + far, x.pair(far, 0, true), -1);
             due("20 b " + far, x.pair(0, far, true), -1);
         }
-        Check.tell(x, "c", 1);
+        x.tell("c", 1);
         due("20 a new word is in no pair", x.pair(2, 0, false) + x.pair(0, 2, false) + x.pair(2, 2, false), 0);
     }
 
-    private static void chosen(SuggestSpell x, int limit, int cost, int... row) {
+    private static void chosen(Speller x, int limit, int cost, int... row) {
         due("21 cost for " + limit, x.chosen(limit, -1), cost);
         for (int k = 0; k < row.length; k++) {
             due("21 word " + k + " for " + limit, x.chosen(limit, k), row[k]);
@@ -538,16 +541,16 @@ public final class PromisesTest {
     }
 
     private static void promise21() {
-        SuggestSpell x = new SuggestSpell();
+        Speller x = new Speller();
         chosen(x, 50, -3, -1);
-        Check.tokens(x, "b");
+        x.tokens("b");
         chosen(x, 50, -3, -3, -1);
-        Check.tell(x, "b", 1);
+        x.tell("b", 1);
         chosen(x, 50, 0, 0, -1);
         x.line();
-        Check.tell(x, "a", 1);
+        x.tell("a", 1);
         chosen(x, 50, -3, -1);
-        Check.tokens(x, "b", "c", "a");
+        x.tokens("b", "c", "a");
         chosen(x, 2, -3, -3, -3, -3, -1);
         chosen(x, 3, 11, 0, 1, 1, -1);
         x.pair(0, 1, true);
@@ -570,71 +573,77 @@ public final class PromisesTest {
             due("21 k " + k, x.chosen(3, k), -1);
             due("21 no such TOKEN is ahead of no WORD, k " + k, x.chosen(0, k), -1);
         }
-        Check.tokens(x, "a", "b", "a", "b", "a", "b");
+        x.tokens("a", "b", "a", "b", "a", "b");
         chosen(x, 0, 100, 1, 0, 1, 0, 1, 0);
         x.pair(0, 1, true);
         chosen(x, 0, 0, 1, 0, 1, 0, 1, 0);
-        Check.type(x, "zzz");
+        x.type("zzz");
         chosen(x, 0, 0, 1, 0, 1, 0, 1, 0);
     }
 
     private static void promise22() {
-        SuggestSpell x = new SuggestSpell();
-        due("22 no word is first", Check.share(x, 0), -1);
-        Check.tell(x, "abcd", 1);
-        due("22 nothing between them", Check.share(x, 0), 0);
-        Check.type(x, "abc");
-        due("22 cut", Check.share(x, 0), 666);
-        Check.type(x, "acbd");
-        due("22 share", Check.share(x, 0), 250);
-        Check.type(x, "a");
-        due("22 above 1000", Check.share(x, 0), 6000);
-        due("22 no word", Check.share(x, 1), -1);
-        due("22 no word", Check.share(x, -1), -1);
+        Speller x = new Speller();
+        due("22 no word is first", x.share(0), -1);
+        x.tell("abcd", 1);
+        due("22 nothing between them", x.share(0), 0);
+        x.type("abc");
+        due("22 cut", x.share(0), 666);
+        x.type("acbd");
+        due("22 share", x.share(0), 250);
+        x.type("a");
+        due("22 above 1000", x.share(0), 6000);
+        due("22 no word", x.share(1), -1);
+        due("22 no word", x.share(-1), -1);
         x.clear();
-        due("22 none is typed", Check.share(x, 0), Long.MIN_VALUE);
-        due("22 no word is first", Check.share(x, 1), -1);
+        due("22 none is typed", x.share(0), Speller.THROWN);
+        due("22 no word is first", x.share(1), -1);
         for (int far : FAR) {
-            due("22 word " + far, Check.share(x, far), -1);
+            due("22 word " + far, x.share(far), -1);
         }
     }
 
-    /** 60 words of 12 letters, 12 letters typed, 6 tokens of 12: every row of the object is full. */
+    /** 60 words, 12 letters typed, 6 tokens of 12: every row of the object is full. */
     private static void fullHouse() {
-        SuggestSpell x = new SuggestSpell();
-        String[] texts = new String[60];
-        for (int i = 0; i < 60; i++) {
-            char[] letters = "mmmmmmmmmmmm".toCharArray();
-            letters[0] = (char) ('a' + (59 - i) / 10);
-            letters[11] = (char) ('a' + (59 - i) % 10);
-            texts[i] = new String(letters);
-            due("full word " + i, Check.tell(x, texts[i], 1), i);
+        Speller x = new Speller();
+        String[] longest = new String[5];
+        for (int chain = 0; chain < 5; chain++) {
+            x.clear();
+            longest[chain] = "";
+            for (int n = 0; n < 12; n++) {
+                int c = n == 0 ? 4 - chain : 12;
+                x.letter(c);
+                longest[chain] += (char) ('a' + c);
+                due("full word", x.word(1), chain * 12 + n);
+            }
         }
         for (int i = 0; i < 60; i++) {
-            due("full order of " + i, x.at(i, -1), 59 - i);
-            Check.type(x, texts[i]);
-            due("full distance of " + i, x.distance(i), 0);
+            due("full order of " + i, x.at(i, -1), (4 - i / 12) * 12 + i % 12);
         }
-        Check.type(x, "zmmmmmmmmmmz");
-        due("full suggest", x.suggest(6), 60);
-        due("full endings", x.endings(6), 60);
-        due("full suggestion", x.suggestion(6, 59), 0);
-        due("full ending", x.ending(5, 0), 59);
-        due("full edits", x.edit(3, -1), 2);
-        due("full parting", x.parting(0), 35);
+        x.type("zmmmmmmmmmmz");
+        due("full suggest", x.suggest(6), 10);
+        due("full suggest of all", x.suggest(50), 60);
+        due("full endings of all", x.endings(50), 60);
+        due("full suggestion, a letter left out", x.suggestion(6, 4), 10);
+        due("full suggestion, a letter becoming another", x.suggestion(6, 9), 11);
+        due("full last suggestion", x.suggestion(50, 59), 0);
+        due("full ending", x.ending(5, 0), 58);
+        due("full last ending", x.ending(50, 59), 0);
+        due("full edits", x.edit(59, -1), 2);
+        due("full parting", x.parting(0), 11);
+        due("full parting, its left side", x.parting(1), 11);
         x.price(2, 9);
-        Check.type(x, "zzzzzzzzzzzz");
-        due("full of edits", x.edit(0, -1), 24);
-        due("full first", x.edit(0, 0), 0);
-        due("full last", x.edit(0, 23), 1);
-        due("full last place", x.place(0, 23), 11);
-        Check.tokens(x, texts[9], texts[8], texts[7], texts[6], texts[59], texts[0]);
+        x.type("zzzzzzzzzzzz");
+        due("full of edits", x.edit(59, -1), 24);
+        due("full first", x.edit(59, 0), 0);
+        due("full last", x.edit(59, 23), 1);
+        due("full last place", x.place(59, 23), 11);
+        x.tokens(longest[0], longest[1], longest[2], longest[3], longest[4], longest[0]);
         due("full chosen", x.chosen(50, -1), 20);
         x.price(5, 0);
         due("full chosen for nothing", x.chosen(50, -1), 0);
-        due("full chosen 5", x.chosen(50, 5), 0);
-        due("full chosen 4", x.chosen(50, 4), 59);
-        due("full chosen 0", x.chosen(0, 0), 9);
+        for (int k = 0; k < 6; k++) {
+            due("full chosen " + k, x.chosen(50, k), 11 + 12 * (k % 5));
+        }
         due("full pair", x.pair(59, 59, true), 1);
         due("full pair is one alone", x.pair(58, 59, true), 1);
     }

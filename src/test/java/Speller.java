@@ -6,6 +6,8 @@ final class Speller {
     static final int MOST_CALLS = 512;
     /** What share answers here where it throws what the document names. */
     static final long THROWN = Long.MIN_VALUE;
+    /** And where the machine itself threw it, which the class must never come to. */
+    private static final long THROWN_BY_MACHINE = Long.MIN_VALUE + 1;
 
     private final SuggestSpell x = new SuggestSpell();
     private int calls = 0;
@@ -127,7 +129,7 @@ final class Speller {
         try {
             return it.share(word);
         } catch (ArithmeticException e) {
-            return THROWN;
+            return "/ by zero".equals(e.getMessage()) ? THROWN_BY_MACHINE : THROWN;
         }
     }
 }

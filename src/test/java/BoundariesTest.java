@@ -606,6 +606,12 @@ public final class BoundariesTest {
         z.tell("abcdefghijk", 1);
         z.tell("l", 1);
         parted(z, TWELVE, 5, 11, 0, 1);
+        Speller v = new Speller();
+        v.tell("ab", 1);
+        v.tell("c", 1);
+        v.price(0, 1);
+        // With no LETTER on a side it would be 6: c put in, ab as it is.
+        parted(v, "ab", 7, 1, 0, 0);
     }
 
     private static void partingPriceIs() {

@@ -33,8 +33,7 @@ public final class FaceTest {
             check.due(m + " answers int", m.getReturnType() == int.class ? 1 : 0, 1);
         }
         Collections.sort(face);
-        System.out.println(face);
-        check.due("the face is the document's", face.equals(Arrays.asList(FACE)) ? 1 : 0, 1);
+        check.due("the face is the document's: " + face, face.equals(Arrays.asList(FACE)) ? 1 : 0, 1);
 
         for (Method m : c.getDeclaredMethods()) {
             boolean hidden = Modifier.isPrivate(m.getModifiers());

@@ -4,7 +4,9 @@ import java.util.function.ToLongFunction;
 
 /**
  * "REFUSALS change nothing; of several the first one here." Each refused call is made on one of two
- * objects with the same past; whatever can be asked of them must then be answered alike.
+ * objects with the same past; whatever can be asked of them must then be answered alike. So must it
+ * be behind calls that only ask, and behind changes that were taken back, since a call changes
+ * nothing but what it tells.
  */
 public final class RefusalsTest {
     private static final Check CHECK = new Check();
@@ -17,6 +19,8 @@ public final class RefusalsTest {
         onAFullObject();
         onAFullLine();
         questionsChangeNothing();
+        thereAndBack();
+        inAnotherRow();
         CHECK.end();
     }
 
@@ -122,9 +126,11 @@ public final class RefusalsTest {
         x.tell("a", 1000);
         x.tell("cab", 1);
         x.price(0, 3);
+        x.price(1, 1);
         x.price(4, 50);
         x.near(0, 1, 0);
         x.near(2, 1, 9);
+        x.near(2, 0, 1);
         x.pair(0, 1, true);
         x.pair(2, 2, true);
         x.tokens("ab", "b", "ca");
@@ -257,8 +263,100 @@ public final class RefusalsTest {
         Speller x = past.make();
         CHECK.due("the same answers twice", asks.applyAsLong(x), asks.applyAsLong(x));
         alike("questions", x, past.make());
+        askedAlone("at", it -> it.at(0, -1));
+        askedAlone("distance", it -> it.distance(1));
+        askedAlone("begins", it -> it.begins(1));
+        askedAlone("edit", it -> it.edit(1, -1));
+        askedAlone("place", it -> it.place(1, 0));
+        askedAlone("suggest", it -> it.suggest(9));
+        askedAlone("suggestion", it -> it.suggestion(9, 0));
+        askedAlone("endings", it -> it.endings(9));
+        askedAlone("ending", it -> it.ending(9, 0));
+        askedAlone("parting", it -> it.parting(0));
+        askedAlone("chosen", it -> it.chosen(50, -1));
+        askedAlone("share", it -> it.share(1));
         Speller y = past.make();
         CHECK.due("near(1, 0, 4), none", y.near(1, 0, 4), -3);
         CHECK.due("it is no refusal", y.near(1, 0, 4), 4);
+    }
+
+    /** Here what was told is not asked of a twin, which the same questions could have spoiled too. */
+    private static void askedAlone(String call, ToLongFunction<Speller> it) {
+        Speller x = busy();
+        it.applyAsLong(x);
+        int[] prices = {3, 1, 3, 1, 50, 4};
+        for (int kind = 0; kind < prices.length; kind++) {
+            CHECK.due(call + ", then price " + kind, x.price(kind, 0), prices[kind]);
+        }
+        int[] counts = {7, 1000, 1};
+        for (int word = 0; word < counts.length; word++) {
+            CHECK.due(call + ", then count of " + word, x.count(word, 1), counts[word]);
+        }
+        int[][] own = {{-1, 0, -3}, {-3, -1, -3}, {1, 9, -1}};
+        for (int a = 0; a < 3; a++) {
+            for (int b = 0; b < 3; b++) {
+                CHECK.due(call + ", then near " + a + " " + b, x.near(a, b, -1), own[a][b]);
+                boolean known = a == 0 && b == 1 || a == 2 && b == 2;
+                CHECK.due(call + ", then pair " + a + " " + b, x.pair(a, b, false), known ? 1 : 0);
+            }
+        }
+        CHECK.due(call + ", then line()", x.line(), 3);
+        CHECK.due(call + ", then word(1)", x.word(1), -3);
+        CHECK.due(call + ", then clear()", x.clear(), 3);
+    }
+
+    private static void thereAndBack() {
+        back("count", x -> x.count(0, 9), x -> x.count(0, 7), 9);
+        back("price of an edit", x -> x.price(0, 9), x -> x.price(0, 3), 9);
+        back("price of a parting", x -> x.price(4, 0), x -> x.price(4, 50), 0);
+        back("near", x -> x.near(0, 1, 8), x -> x.near(0, 1, 0), 8);
+        back("near, where there was none", x -> x.near(1, 2, 8), x -> x.near(1, 2, -1), 8);
+        back("pair", x -> x.pair(1, 2, true), x -> x.pair(1, 2, false), 1);
+        back("pair, the other way", x -> x.pair(0, 1, false), x -> x.pair(0, 1, true), 1);
+        back("clear and letter", x -> x.clear(), x -> {
+            x.letter(2);
+            x.letter(0);
+            return x.letter(1);
+        }, 3);
+        back("letter and clear", x -> x.letter(9), x -> {
+            x.type("cab");
+            return 0;
+        }, 0);
+        back("line and token", x -> x.line(), x -> {
+            x.tokens("ab", "b", "ca");
+            x.type("cab");
+            return 0;
+        }, 0);
+        back("token", x -> x.token(), x -> {
+            x.tokens("ab", "b", "ca");
+            x.type("cab");
+            return 0;
+        }, 0);
+    }
+
+    private static void back(String call, ToLongFunction<Speller> there, ToLongFunction<Speller> back, long want) {
+        Speller x = busy();
+        there.applyAsLong(x);
+        CHECK.due(call + ", taken back", back.applyAsLong(x), want);
+        alike(call + " there and back", x, busy());
+    }
+
+    /** As busy(), the calls coming in another row. */
+    private static void inAnotherRow() {
+        Speller x = new Speller();
+        x.near(2, 1, 9);
+        x.near(2, 0, 1);
+        x.near(0, 1, 0);
+        x.price(4, 50);
+        x.tokens("ab", "b", "ca");
+        x.tell("ab", 1000);
+        x.price(0, 3);
+        x.price(1, 1);
+        x.tell("a", 1000);
+        x.pair(0, 1, true);
+        x.count(0, 7);
+        x.tell("cab", 1);
+        x.pair(2, 2, true);
+        alike("in another row", x, busy());
     }
 }
